@@ -222,73 +222,41 @@ public final class StatuteConsolidator {
     }
 
     public int levelAt(int day, int index) {
-        if (!version.compute(statute, day)) {
-            return NO_SUCH_DAY;
-        }
-        if (!version.provisions.has(index)) {
-            return NO_SUCH_POSITION;
-        }
-        return Paths.levelOf(version.provisions.paths[index]);
+        int refusal = refusalAt(day, index);
+        return refusal != ACCEPTED ? refusal : Paths.levelOf(version.provisions.paths[index]);
     }
 
     public int textAt(int day, int index) {
-        if (!version.compute(statute, day)) {
-            return NO_SUCH_DAY;
-        }
-        if (!version.provisions.has(index)) {
-            return NO_SUCH_POSITION;
-        }
-        return version.provisions.texts[index];
+        int refusal = refusalAt(day, index);
+        return refusal != ACCEPTED ? refusal : version.provisions.texts[index];
     }
 
     public int isRepealedAt(int day, int index) {
-        if (!version.compute(statute, day)) {
-            return NO_SUCH_DAY;
-        }
-        if (!version.provisions.has(index)) {
-            return NO_SUCH_POSITION;
+        int refusal = refusalAt(day, index);
+        if (refusal != ACCEPTED) {
+            return refusal;
         }
         return version.provisions.repealed[index] ? 1 : 0;
     }
 
     public int pathLengthAt(int day, int index) {
-        if (!version.compute(statute, day)) {
-            return NO_SUCH_DAY;
-        }
-        if (!version.provisions.has(index)) {
-            return NO_SUCH_POSITION;
-        }
-        return Paths.lengthOf(version.provisions.paths[index]);
+        int refusal = refusalAt(day, index);
+        return refusal != ACCEPTED ? refusal : Paths.lengthOf(version.provisions.paths[index]);
     }
 
     public int pathCharacterAt(int day, int index, int position) {
-        if (!version.compute(statute, day)) {
-            return NO_SUCH_DAY;
-        }
-        if (!version.provisions.has(index)) {
-            return NO_SUCH_POSITION;
-        }
-        return Paths.characterOf(version.provisions.paths[index], position);
+        int refusal = refusalAt(day, index);
+        return refusal != ACCEPTED ? refusal : Paths.characterOf(version.provisions.paths[index], position);
     }
 
     public int originAt(int day, int index) {
-        if (!version.compute(statute, day)) {
-            return NO_SUCH_DAY;
-        }
-        if (!version.provisions.has(index)) {
-            return NO_SUCH_POSITION;
-        }
-        return version.provisions.origins[index];
+        int refusal = refusalAt(day, index);
+        return refusal != ACCEPTED ? refusal : version.provisions.origins[index];
     }
 
     public int creatorAt(int day, int index) {
-        if (!version.compute(statute, day)) {
-            return NO_SUCH_DAY;
-        }
-        if (!version.provisions.has(index)) {
-            return NO_SUCH_POSITION;
-        }
-        return version.provisions.creators[index];
+        int refusal = refusalAt(day, index);
+        return refusal != ACCEPTED ? refusal : version.provisions.creators[index];
     }
 
     public int find(int day) {
@@ -314,21 +282,14 @@ public final class StatuteConsolidator {
     // ---- references
 
     public int referenceCountAt(int day, int index) {
-        if (!version.compute(statute, day)) {
-            return NO_SUCH_DAY;
-        }
-        if (!version.provisions.has(index)) {
-            return NO_SUCH_POSITION;
-        }
-        return statute.referenceCountOf(version.provisions.origins[index]);
+        int refusal = refusalAt(day, index);
+        return refusal != ACCEPTED ? refusal : statute.referenceCountOf(version.provisions.origins[index]);
     }
 
     public int referenceAt(int day, int index, int reference) {
-        if (!version.compute(statute, day)) {
-            return NO_SUCH_DAY;
-        }
-        if (!version.provisions.has(index)) {
-            return NO_SUCH_POSITION;
+        int refusal = refusalAt(day, index);
+        if (refusal != ACCEPTED) {
+            return refusal;
         }
         int origin = version.provisions.origins[index];
         if (reference < 0 || reference >= statute.referenceCountOf(origin)) {
@@ -528,6 +489,14 @@ public final class StatuteConsolidator {
         return number;
     }
 
+    /** Computes the version of a day; returns ACCEPTED if it has the position. */
+    private int refusalAt(int day, int index) {
+        if (!version.compute(statute, day)) {
+            return NO_SUCH_DAY;
+        }
+        return version.provisions.has(index) ? ACCEPTED : NO_SUCH_POSITION;
+    }
+
     private int danglingReferencesOf(int origin) {
         int dangling = 0;
         int references = statute.referenceCountOf(origin);
@@ -635,10 +604,6 @@ public final class StatuteConsolidator {
             return (int) ((path >> ((DEEPEST_LEVEL - level) * LABEL_BITS)) & LABEL_MASK);
         }
 
-        private static int lastLabelOf(long path) {
-            return labelAt(path, levelOf(path));
-        }
-
         private static long withLabel(long path, int level, int label) {
             int shift = (DEEPEST_LEVEL - level) * LABEL_BITS;
             return (path & ~(LABEL_MASK << shift)) | ((long) label << shift);
@@ -653,7 +618,10 @@ public final class StatuteConsolidator {
         }
 
         private static long parentOf(long path) {
-            return withLabel(path, levelOf(path), 0);
+            if ((path & LABEL_MASK) != 0) {
+                return path & ~LABEL_MASK;
+            }
+            return (path & LOWER_MASK) != 0 ? path & ~LOWER_MASK : ROOT;
         }
 
         /** The part of a path below a level. */
@@ -763,10 +731,11 @@ public final class StatuteConsolidator {
         }
 
         private int labelOfNewLastChild(long parent) {
+            int level = Paths.levelOf(parent) + 1;
             int greatest = 0;
             for (int position = 0; position < count; position++) {
                 if (Paths.parentOf(paths[position]) == parent) {
-                    greatest = Math.max(greatest, Paths.numberOf(Paths.lastLabelOf(paths[position])));
+                    greatest = Math.max(greatest, Paths.numberOf(Paths.labelAt(paths[position], level)));
                 }
             }
             return greatest < Paths.MAX_NUMBER ? Paths.labelOfNumber(greatest + 1) : NO_LABEL;
@@ -777,19 +746,21 @@ public final class StatuteConsolidator {
          * its place by then and so does not count; for a new one, moved is the root.
          */
         private int labelAfter(long sibling, long moved) {
-            int label = Paths.lastLabelOf(sibling);
+            int level = Paths.levelOf(sibling);
+            int label = Paths.labelAt(sibling, level);
             int limit = Paths.labelOfNumber(Paths.numberOf(label) + 1);
             long parent = Paths.parentOf(sibling);
             for (int position = 0; position < count; position++) {
                 long path = paths[position];
                 if (path > sibling && path != moved && Paths.parentOf(path) == parent) {
-                    limit = Math.min(limit, Paths.lastLabelOf(path));
+                    limit = Math.min(limit, Paths.labelAt(path, level));
                 }
             }
             return Paths.labelBetween(label, limit);
         }
 
-        private void create(long path, int text, int origin, int creator) {
+        /** Adds a provision behind all others: its place is found by restoreOrder. */
+        private void append(long path, int text, int origin, int creator) {
             if (count >= MAX_PROVISIONS) {
                 return;
             }
@@ -799,7 +770,6 @@ public final class StatuteConsolidator {
             origins[count] = origin;
             creators[count] = creator;
             count++;
-            restoreOrder();
         }
 
         private void repeal(long provision) {
@@ -810,14 +780,14 @@ public final class StatuteConsolidator {
             }
         }
 
-        private void move(long from, long to) {
+        /** Gives a provision another path, and its descendants with it; restoreOrder finds their places. */
+        private void changePath(long from, long to) {
             int level = Paths.levelOf(from);
             for (int position = 0; position < count; position++) {
                 if (Paths.isWithin(paths[position], from)) {
                     paths[position] = to | Paths.tailBelow(paths[position], level);
                 }
             }
-            restoreOrder();
         }
 
         private void renumberChildren(long parent) {
@@ -977,7 +947,8 @@ public final class StatuteConsolidator {
                 return FULL;
             }
             referenceCounts[provision] = 0;
-            original.create(path, text, provision, NONE);
+            original.append(path, text, provision, NONE);
+            original.restoreOrder();
             return provision;
         }
     }
@@ -1096,7 +1067,8 @@ public final class StatuteConsolidator {
             if (label < 0) {
                 return WITHOUT_LABEL;
             }
-            provisions.create(Paths.siblingOf(sibling, label), text, NONE, amendment);
+            provisions.append(Paths.siblingOf(sibling, label), text, NONE, amendment);
+            provisions.restoreOrder();
             return APPLIED;
         }
 
@@ -1105,7 +1077,8 @@ public final class StatuteConsolidator {
             if (label < 0) {
                 return WITHOUT_LABEL;
             }
-            provisions.create(Paths.childOf(parent, label), text, NONE, amendment);
+            provisions.append(Paths.childOf(parent, label), text, NONE, amendment);
+            provisions.restoreOrder();
             return APPLIED;
         }
 
@@ -1123,7 +1096,8 @@ public final class StatuteConsolidator {
             if (label < 0) {
                 return WITHOUT_LABEL;
             }
-            provisions.move(path, Paths.siblingOf(goal, label));
+            provisions.changePath(path, Paths.siblingOf(goal, label));
+            provisions.restoreOrder();
             return APPLIED;
         }
     }
