@@ -233,6 +233,7 @@ public final class PromiseTests {
         due("after 1AA and before 1AAA", x.insertProvision(4, 7), -7);
         due("after 1A and before 1AA", x.insertProvision(2, 7), -7);
         due("after 1AAA and before 1AB", x.insertProvision(6, 8), 7);
+        due("after 1AAA and before 1AAB", x.insertProvision(6, 9), -7);
         due("whole", whole(x, -1), "1:0 1A:2 1AA:4 1AAA:6 1AAB:8 1AB:5 1B:3 2:1");
         x = sections(1);
         int last = 0;
@@ -263,7 +264,13 @@ public final class PromiseTests {
         due("first change", x.setText(4, 9999), 14);
         due("second change", x.setText(4, 0), 9999);
         due("third change", x.setText(4, 7), 0);
-        due("whole", whole(x, -1), "1:10 1(1):12 1(1)(1):7 1(2):13 2:11");
+        due("the first one", x.setText(0, 8), 10);
+        due("whole", whole(x, -1), "1:8 1(1):12 1(1)(1):7 1(2):13 2:11");
+        x.clear();
+        x.addProvision(-1, 1);
+        for (int provision = 1; provision < 5; provision++) {
+            due("one that was cleared", x.setText(provision, 1), -1);
+        }
     }
 
     private static void addReference() {
@@ -381,6 +388,12 @@ public final class PromiseTests {
 
     private static void addAmendmentSyntax() {
         promise = 10;
+        StatuteConsolidator x = new StatuteConsolidator();
+        amend(x, 0, "repeal 1");
+        due("after a longer input", amend(x, 0, "rep"), -1003);
+        due("after a longer input", amend(x, 0, "repeal"), -1006);
+        amend(x, 0, "repeal 1;repeal 2");
+        due("after a longer input", amend(x, 0, "repeal 1;rep"), -1012);
         valid("insert 1 0");
         valid("add 99ZZZ(99ZZZ)(99ZZZ) 9999");
         valid("replace 10A(1) 0000");
@@ -405,6 +418,7 @@ public final class PromiseTests {
         syntax("repeal ", 7);
         syntax("repeal  1", 7);
         syntax("repeal 0", 7);
+        syntax("repeal (1)", 7);
         syntax("repeal A", 7);
         syntax("repeal 100", 9);
         syntax("repeal 1a", 8);
@@ -634,6 +648,12 @@ public final class PromiseTests {
         due("original on day 5", x.creatorAt(5, 0), -9);
         due("1(1A), moved by its creator", x.creatorAt(5, 3), 1);
         due("1A", x.creatorAt(5, 5), 0);
+        x = small();
+        amend(x, 1, "insert 2 1");
+        amend(x, 2, "insert 1 1");
+        due("1A before 2A", x.creatorAt(2, 4), 1);
+        due("2 between them", x.creatorAt(2, 5), -9);
+        due("2A", x.creatorAt(2, 6), 0);
     }
 
     private static void lookDue(StatuteConsolidator x, int day, String path, int want) {
@@ -660,6 +680,7 @@ public final class PromiseTests {
         lookDue(x, 3, "0", -1000);
         lookDue(x, 3, "01", -1000);
         lookDue(x, 3, "A", -1000);
+        lookDue(x, 3, "(1)", -1000);
         lookDue(x, 3, " 1", -1000);
         lookDue(x, 3, "1 ", -1001);
         lookDue(x, 3, "1;", -1001);
@@ -771,6 +792,11 @@ public final class PromiseTests {
         due("repealed, but its own reference does not count", x.danglingCount(2), 3);
         due("removed", x.danglingCount(3), 3);
         due("another one repealed", x.danglingCount(4), 3);
+        x = small();
+        x.addReference(1, 0);
+        amend(x, 2, "repeal 1");
+        due("to the first one", x.danglingCount(1), 0);
+        due("to the first one, repealed", x.danglingCount(2), 1);
     }
 
     private static void conflictCount() {
@@ -1077,6 +1103,10 @@ public final class PromiseTests {
         x.newShelf(2, 0, 0);
         due("length 0", x.copyShelf(2, 0), 0);
         due("its length", x.shelved(0, 0), -12);
+        x.clear();
+        x.newShelf(0, 0, 3);
+        due("onto an empty one", x.copyShelf(0, 2), 3);
+        due("which is not empty now", x.shelved(2, 3), -12);
     }
 
     private static void saveSnapshot() {
@@ -1135,6 +1165,26 @@ public final class PromiseTests {
         }
         due("the input stays", x.clearInput(), 2);
         due("kept over clear", x.restoreSnapshot(), 5);
+        restoreOverOthers();
+    }
+
+    /** Other references and instructions took the places of the saved ones meanwhile. */
+    private static void restoreOverOthers() {
+        StatuteConsolidator x = small();
+        x.addReference(0, 4);
+        x.addReference(0, 3);
+        amend(x, 5, "move 1(1) 1(2);replace 2 6");
+        x.saveSnapshot();
+        x.clear();
+        x.addProvision(-1, 77);
+        x.addReference(0, 0);
+        x.addReference(0, 0);
+        amend(x, 2, "move 2 1;replace 1 3");
+        x.restoreSnapshot();
+        due("day 4", whole(x, 4), "1:10 1(1):12 1(1)(1):14 1(2):13 2:11");
+        due("day 5", whole(x, 5), "1:10 1(2):13 1(2A):12 1(2A)(1):14 2:6");
+        due("the first reference", x.referenceAt(-1, 0, 0), 2);
+        due("the second reference", x.referenceAt(-1, 0, 1), 3);
     }
 
     // ---- what the description says of instructions and their order
@@ -1154,6 +1204,9 @@ public final class PromiseTests {
         after("insert 1(2) 5;add 1 6", "1:10 1(1):12 1(1)(1):14 1(2):13 1(2A):5 1(3):6 2:11");
         after("repeal 1(2);add 1 6", "1:10 1(1):12 1(1)(1):14 1(2):13- 1(3):6 2:11");
         after("replace 1(1)(1) 5", "1:10 1(1):12 1(1)(1):5 1(2):13 2:11");
+        after("repeal 2;insert 1 5", "1:10 1(1):12 1(1)(1):14 1(2):13 1A:5 2:11-");
+        after("insert 1 5;insert 1A 6;insert 1A 7;move 1B 2;insert 1AA 8",
+            "1:10 1(1):12 1(1)(1):14 1(2):13 1A:5 1AA:7 1B:8 2:11 2A:6");
         after("repeal 1", "1:10- 1(1):12- 1(1)(1):14- 1(2):13- 2:11");
         after("move 1 2", "2:11 2A:10 2A(1):12 2A(1)(1):14 2A(2):13");
         after("move 2 1", "1:10 1(1):12 1(1)(1):14 1(2):13 1A:11");
@@ -1187,6 +1240,13 @@ public final class PromiseTests {
         due("day 5 again", x.textAt(5, 0), 100);
         x.setCommencement(1, 5);
         due("the same day, the greater number", x.textAt(5, 0), 101);
+        x = sections(2);
+        amend(x, 0, "move 1 2");
+        due("two sections", whole(x, 0), "2:1 2A:0");
+        for (int number = 1; number < 8; number++) {
+            amend(x, 8 - number, "add 2 " + number);
+        }
+        due("all eight", whole(x, 7), "2:1 2(1):7 2(2):6 2(3):5 2(4):4 2(5):3 2(6):2 2(7):1 2A:0");
     }
 
     private static void examples() {
