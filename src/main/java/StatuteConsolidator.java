@@ -629,9 +629,10 @@ public final class StatuteConsolidator {
             return path & ((1L << ((DEEPEST_LEVEL - level) * LABEL_BITS)) - 1);
         }
 
-        /** Whether a path is that of a provision or of one of its descendants. */
-        private static boolean isWithin(long path, long provision) {
-            return path - tailBelow(path, levelOf(provision)) == provision;
+        /** Whether a path is that of a provision of a level or of one of its descendants. */
+        private static boolean isWithin(long path, long provision, int level) {
+            int shift = (DEEPEST_LEVEL - level) * LABEL_BITS;
+            return path >> shift == provision >> shift;
         }
 
         private static int digitsOf(int label) {
@@ -773,8 +774,9 @@ public final class StatuteConsolidator {
         }
 
         private void repeal(long provision) {
+            int level = Paths.levelOf(provision);
             for (int position = 0; position < count; position++) {
-                if (Paths.isWithin(paths[position], provision)) {
+                if (Paths.isWithin(paths[position], provision, level)) {
                     repealed[position] = true;
                 }
             }
@@ -784,20 +786,21 @@ public final class StatuteConsolidator {
         private void changePath(long from, long to) {
             int level = Paths.levelOf(from);
             for (int position = 0; position < count; position++) {
-                if (Paths.isWithin(paths[position], from)) {
+                if (Paths.isWithin(paths[position], from, level)) {
                     paths[position] = to | Paths.tailBelow(paths[position], level);
                 }
             }
         }
 
         private void renumberChildren(long parent) {
-            int childLevel = Paths.levelOf(parent) + 1;
+            int level = Paths.levelOf(parent);
+            int childLevel = level + 1;
             int number = 0;
             boolean removing = false;
             int kept = 0;
             for (int position = 0; position < count; position++) {
                 long path = paths[position];
-                if (path != parent && Paths.isWithin(path, parent)) {
+                if (path != parent && Paths.isWithin(path, parent, level)) {
                     if (Paths.levelOf(path) == childLevel) {
                         removing = repealed[position];
                         number += removing ? 0 : 1;
